@@ -385,24 +385,21 @@ public final class CaseTree {
             }
         }
 
+        /** Thresholds come lowest first, so that of several with one gain the lowest stays. */
         void examine(int attribute, int[] row, int minimum) {
-            findings[attribute].there = false;
-            if (book.isContinuous(attribute)) {
-                examineThresholds(attribute, row, minimum);
+            Finding finding = findings[attribute];
+            finding.there = false;
+            if (!book.isContinuous(attribute)) {
+                tally(attribute, NOTHING, row);
+                if (isValid(minimum)) {
+                    offer(finding, NOTHING);
+                }
                 return;
             }
-            tally(attribute, NOTHING, row);
-            if (isValid(minimum)) {
-                offer(findings[attribute], NOTHING);
-            }
-        }
-
-        /** Lowest first, so that of several with one gain the lowest threshold stays. */
-        private void examineThresholds(int attribute, int[] row, int minimum) {
-            Finding finding = findings[attribute];
             int valid = 0;
+            // without any value low is below all values, and high is nothing too
             int low = book.nextValue(attribute, row, UNKNOWN);
-            int high = low == NOTHING ? NOTHING : book.nextValue(attribute, row, low);
+            int high = book.nextValue(attribute, row, low);
             for (int pair = 0; pair < CASES && high != NOTHING; pair++) {
                 int threshold = book.valueUpTo(attribute, (low + high) / 2);
                 tally(attribute, threshold, row);
@@ -815,10 +812,6 @@ public final class CaseTree {
                 path.goDown(depth, branch);
                 errors += pruneFrom(tree.below(place, branch), depth + 1);
             }
-            return takeBest(place, depth, errors);
-        }
-
-        private int takeBest(int place, int depth, int errors) {
             int leaf = leafErrors(tree.weights, place * CLASSES);
             int heaviest = tree.heaviestBelow(place);
             int raised = sendFrom(heaviest, depth, false);

@@ -96,7 +96,7 @@ public final class FaceTest {
         int first = 0;
         String[] lines = code.split("\n");
         for (int i = 0; i < lines.length; i++) {
-            if (lines[i].matches("    (    )?[a-z].*\\) \\{")) {
+            if (lines[i].matches("    (    )?(?!if|for|while|switch)[A-Za-z].*\\) \\{")) {
                 first = i;
             }
             if (lines[i].matches("    (    )?\\}")) {

@@ -9,6 +9,12 @@ public final class PruningTest {
         emptyNodeKeepsItsClass();
         onlyItsOwnCases();
         againAndAgain();
+        leafBeforeBranch();
+        leafBeforeNothing();
+        branchBeforeLeaf();
+        branchBeforeNothing();
+        firstOfSeveralBranches();
+        errorsAfterWhatIsBelow();
         check.end();
     }
 
@@ -130,5 +136,82 @@ public final class PruningTest {
         check.due("prune(0)", x.prune(0), 1);
         check.due("grow(1)", x.grow(1), 5);
         check.due("tested(0)", x.tested(0), 1);
+    }
+
+    /** Pruned with 360: a leaf has 720 * wrong cases + 360 errors. */
+    private static CaseTree pruned(int[] kinds, int grown, int left, int[][] cases) {
+        CaseTree x = new CaseTree();
+        for (int kind : kinds) {
+            x.attribute(kind);
+        }
+        for (int[] row : cases) {
+            x.add(row[0], row[1], row[2], row[3], 0);
+        }
+        check.due("grow(1)", x.grow(1), grown);
+        check.due("prune(360)", x.prune(360), left);
+        return x;
+    }
+
+    /** At the root A, C and E are all 1800, and the heaviest branch is no leaf. */
+    private static void leafBeforeBranch() {
+        check.part("promise 5, A = C = E");
+        CaseTree x = pruned(new int[] {2, 2, 2}, 5, 1,
+                new int[][] {{0, 1, -1, 1}, {2, 1, -1, 1}, {1, 0, 0, 1}, {0, 0, 1, 0}});
+        node(x, 0, -1, 0, 1440, 720, 720);
+    }
+
+    /** At node 2 A and E are 1080, and C is 1440. */
+    private static void leafBeforeNothing() {
+        check.part("promise 5, A = E < C");
+        CaseTree x = pruned(new int[] {2, 3, 2}, 8, 4,
+                new int[][] {{0, 1, 1, 0}, {0, 0, 1, 1}, {1, 1, 0, 0}, {2, 0, 1, 0}});
+        node(x, 0, 1, 0, 1440, 720, 720);
+        node(x, 2, -1, 0, 1440, 0, 720);
+        node(x, 3, -1, 0, 0, 0, 0);
+    }
+
+    /** At the root A and E are 1800, and C is 1440. */
+    private static void branchBeforeLeaf() {
+        check.part("promise 5, C < A = E");
+        CaseTree x = pruned(new int[] {2, 3, 2}, 5, 3,
+                new int[][] {{0, 1, 2, 0}, {0, 1, 0, 1}, {2, -1, 0, 1}, {1, 0, 0, 0}});
+        node(x, 0, 0, 0, 1440, 720, 720);
+        node(x, 1, -1, 1, 0, 720, 240);
+        node(x, 2, -1, 0, 1440, 0, 480);
+    }
+
+    /** At the root C and E are 1440, and A is 1800. */
+    private static void branchBeforeNothing() {
+        check.part("promise 5, C = E < A");
+        CaseTree x = pruned(new int[] {3, 2, 2}, 6, 3,
+                new int[][] {{1, 0, 0, 0}, {1, 1, 0, 0}, {0, 2, 0, 0}, {0, 0, 1, 0}});
+        node(x, 0, 1, 0, 1440, 1440, 0);
+        node(x, 1, -1, 1, 720, 1440, 0);
+        node(x, 2, -1, 0, 720, 0, 0);
+    }
+
+    /** Branches 0 and 2 of the root have the weight 1440; only below branch 0 there is a test. */
+    private static void firstOfSeveralBranches() {
+        check.part("promise 5, the first of several");
+        CaseTree x = pruned(new int[] {3, 2, 2}, 6, 3,
+                new int[][] {{0, 1, 0, 1}, {1, 2, 1, 1}, {0, 0, 0, 1}, {1, 0, 0, 0}, {1, 2, 1, 0}});
+        node(x, 0, 2, 1, 1440, 2160, 0);
+        node(x, 1, -1, 1, 0, 1440, 0);
+        node(x, 2, -1, 0, 1440, 720, 0);
+    }
+
+    /**
+     * Node 2 is replaced by its branch 2 and has 1440 errors then, not 1800: so at the root E is
+     * 1800, and C with 2160 is above it.
+     */
+    private static void errorsAfterWhatIsBelow() {
+        check.part("promise 5, upwards");
+        CaseTree x = pruned(new int[] {4, 2, 2}, 9, 5, new int[][] {{1, 2, 0, 0}, {2, 0, 1, 0},
+            {0, 2, 1, 1}, {0, 3, 1, 0}, {0, 1, 1, 1}, {2, 2, 1, 0}});
+        node(x, 0, 1, 0, 2160, 720, 1440);
+        node(x, 1, -1, 1, 0, 720, 0);
+        node(x, 2, 2, 0, 2160, 0, 1440);
+        node(x, 3, -1, 2, 720, 0, 1440);
+        node(x, 4, -1, 0, 1440, 0, 0);
     }
 }

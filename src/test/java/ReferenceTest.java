@@ -8,6 +8,10 @@ public final class ReferenceTest {
     private static final Check check = new Check();
     private static final int[] KINDS = {0, 2, 3, 4, 0, 2};
     private static final int[] SPREADS = {3, 8, 30, 1000};
+    /** With parts of a case's weight as charges, errors are often equal. */
+    private static final int[] CHARGES = {0, 180, 360, 360, 720, 1440};
+    private static final int[] WILD = {Integer.MIN_VALUE, -32768, -3, -2, -1, 0, 1, 2, 3, 4, 5, 6, 24, 84, 85, 999,
+        1000, 2000, 2001, 32767, 32768, Integer.MAX_VALUE};
 
     private static long state = 1;
     private static int raised = 0;
@@ -38,7 +42,7 @@ public final class ReferenceTest {
                 + ", emptied nodes " + emptiedNodes + ", far thresholds " + farThresholds
                 + ", average mattered " + averageMattered + ", gains below zero " + gainsBelowZero
                 + ", known zero " + knownZero);
-        check.holds("many branches take the place of a node", raised > 100);
+        check.holds("many branches take the place of a node", raised > 50);
         check.holds("many nodes become leaves", leaved > 100);
         check.holds("many nodes have no weight", emptyNodes > 100);
         check.holds("many thresholds lie above the lower value", farThresholds > 100);
@@ -65,19 +69,54 @@ public final class ReferenceTest {
             kinds[i] = KINDS[next(KINDS.length)];
             check.due("attribute", x.attribute(kinds[i]), y.attribute(kinds[i]));
         }
+        tryAttributes();
         int rounds = 1 + next(3);
         for (int round = 0; round < rounds; round++) {
             addSome(1 + next(24 / rounds + 2));
+            tryAttributes();
             compareTests();
             maybeGrow();
             compareTree();
             for (int i = next(3); i > 0; i--) {
-                int charge = next(5) == 0 ? next(2001) : next(800);
-                check.due("prune", x.prune(charge), y.prune(charge));
+                int charge = next(2) == 0 ? CHARGES[next(CHARGES.length)] : next(5) == 0 ? next(2003) - 1 : next(800);
+                check.due("prune(" + charge + ")", x.prune(charge), y.prune(charge));
                 compareTree();
             }
         }
+        for (int i = next(4); i > 0; i--) {
+            tryWild();
+        }
         note();
+    }
+
+    /** Calls with arguments from anywhere; what they change, they change in both. */
+    private void tryWild() {
+        int a = WILD[next(WILD.length)];
+        int b = WILD[next(WILD.length)];
+        int c = WILD[next(WILD.length)];
+        String call = "(" + a + ", " + b + ", " + c + ")";
+        check.due("log" + call, x.log(a), Reference.log(a));
+        check.due("share" + call, x.share(a), y.share(a));
+        check.due("tested" + call, x.tested(a), y.tested(a));
+        check.due("threshold" + call, x.threshold(a), y.threshold(a));
+        check.due("classOf" + call, x.classOf(a), y.classOf(a));
+        check.due("child" + call, x.child(a, b), y.child(a, b));
+        check.due("weight" + call, x.weight(a, b), y.weight(a, b));
+        check.due("part" + call, x.part(a, b), y.part(a, b));
+        check.due("gain" + call, x.gain(a, b), y.gain(a, b));
+        check.due("split" + call, x.split(a, b), y.split(a, b));
+        check.due("cut" + call, x.cut(a, b), y.cut(a, b));
+        check.due("add" + call, x.add(a, b, c, b, c), y.add(a, b, c, b, c));
+        check.due("classify" + call, x.classify(a, b, c, a), y.classify(a, b, c, a));
+        check.due("prune" + call, x.prune(a), y.prune(a));
+        check.due("grow" + call, x.grow(b), y.grow(b));
+        compareTree();
+    }
+
+    /** Only such as are refused: with four attributes, with cases, or of no kind. */
+    private void tryAttributes() {
+        int values = attributes == 4 || y.cases() > 0 ? next(8) - 1 : 5;
+        check.due("attribute(" + values + ")", x.attribute(values), y.attribute(values));
     }
 
     private void note() {
