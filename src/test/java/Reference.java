@@ -113,7 +113,7 @@ final class Reference {
         return l;
     }
 
-    private static long information(int... weights) {
+    static long information(int... weights) {
         int total = Arrays.stream(weights).sum();
         long information = 0;
         for (int weight : weights) {

@@ -23,7 +23,7 @@ public final class ReferenceTest {
     private static int gainsBelowZero = 0;
     private static int knownZero = 0;
 
-    private CaseTree x;
+    private Limited x;
     private Reference y;
     private int attributes;
     private int[] kinds;
@@ -58,7 +58,7 @@ public final class ReferenceTest {
     }
 
     private void run(int run) {
-        x = new CaseTree();
+        x = new Limited();
         y = new Reference();
         spread = SPREADS[next(SPREADS.length)];
         unknown = next(4) * 12;
