@@ -48,6 +48,9 @@ public final class ReferenceTest {
         check.holds("many thresholds lie above the lower value", farThresholds > 100);
         check.holds("the average often matters", averageMattered > 100);
         check.holds("many gains are below zero", gainsBelowZero > 100);
+        // by reckoning no run reaches these two; one that does wants a test of its own
+        check.due("tests that were met with K = 0", knownZero, 0);
+        check.due("nodes that lost all their weight by pruning", emptiedNodes, 0);
         check.end();
     }
 
