@@ -19,6 +19,9 @@ public final class ClassifyingEdgesTest {
         sharesOfTheUnknown();
         restIntoTheFirstGreatest();
         unknownMoreThanOnce();
+        unknownAtFourBranches();
+        unknownAtTwoNodesOfOneDepth();
+        leavesAtDepthThree();
         leafWithoutWeight();
         restToTheOwnClass();
         lightClass();
@@ -33,6 +36,7 @@ public final class ClassifyingEdgesTest {
         wrongWithoutATree();
         wrongOfNone();
         wrongOfAll();
+        wrongOfTheFirstAndTheLast();
         wrongOfTheCasesThatThereAreNow();
         wrongWithUnknownValues();
         wrongLeavesTheShares();
@@ -178,6 +182,51 @@ public final class ClassifyingEdgesTest {
         check.shares(x, 308, 103, 309);
         check.due("classify(-1, 0)", x.classify(-1, 0, 0, 0), 1);
         check.shares(x, 308, 412, 0);
+    }
+
+    /** Parts of 4, 3, 2 and 1 of 10 cases; the classes of the last two branches are one. */
+    private static void unknownAtFourBranches() {
+        check.part("promise 6: in shares, by four branches");
+        CaseTree x = Make.of("4", "4x 2 0", "3x 1 1", "2x 0 2", "0 3");
+        check.due("grow(1)", x.grow(1), 5);
+        check.due("classify(-1)", x.classify(-1, 0, 0, 0), 2);
+        check.shares(x, 216, 216, 288);
+        CaseTree last = Make.of("4", "0 0", "1 1", "1 2", "2x 2 3");
+        check.due("grow(1)", last.grow(1), 5);
+        check.due("classify(-1)", last.classify(-1, 0, 0, 0), 1);
+        check.shares(last, 144, 288, 288);
+    }
+
+    /** Below branch 0 attribute 1 has parts of 3 and 1 cases, below branch 1 attribute 2 of 1 and 1. */
+    private static void unknownAtTwoNodesOfOneDepth() {
+        check.part("promise 6: by the parts and the K of each test");
+        CaseTree x = Make.of("2 2 2", "3x 0 0 0 -1", "1 0 1 -1", "1 1 -1 0", "2 1 -1 1");
+        check.due("grow(1)", x.grow(1), 7);
+        check.due("tested(1)", x.tested(1), 1);
+        check.due("tested(4)", x.tested(4), 2);
+        check.due("classify(0, -1, -1)", x.classify(0, -1, -1, 0), 0);
+        check.shares(x, 540, 180, 0);
+        check.due("classify(1, -1, -1)", x.classify(1, -1, -1, 0), 1);
+        check.shares(x, 0, 360, 360);
+        check.due("classify(-1, -1, -1)", x.classify(-1, -1, -1, 0), 0);
+        check.shares(x, 360, 240, 120);
+        check.due("classify(-1, 1, 1)", x.classify(-1, 1, 1, 0), 1);
+        check.shares(x, 0, 480, 240);
+    }
+
+    /** Each test takes the lowest value away; at depth 3 three cases stand against two. */
+    private static void leavesAtDepthThree() {
+        check.part("promise 6: a leaf at each depth");
+        CaseTree x = Make.of("0", "9x 0 0", "6x 1 10", "4x 2 20", "3x 0 30", "2x 1 40");
+        check.due("grow(1)", x.grow(1), 7);
+        int[][] due = {{0, 720, 0, 0}, {10, 0, 720, 0}, {20, 0, 0, 720}, {30, 432, 288, 0}, {40, 432, 288, 0}};
+        int[] types = {0, 1, 2, 0, 0};
+        for (int i = 0; i < 5; i++) {
+            check.due("classify(" + due[i][0] + ")", x.classify(due[i][0], 0, 0, 0), types[i]);
+            check.shares(x, due[i][1], due[i][2], due[i][3]);
+        }
+        check.due("classify(-1)", x.classify(-1, 0, 0, 0), 0);
+        check.shares(x, 360, 240, 120);
     }
 
     private static void leafWithoutWeight() {
@@ -331,6 +380,16 @@ public final class ClassifyingEdgesTest {
         Make.add(x, "23x 1 0");
         check.due("wrong()", x.wrong(), 23);
         check.due("wrong() again", x.wrong(), 23);
+    }
+
+    private static void wrongOfTheFirstAndTheLast() {
+        check.part("promise 8: the first and the last case");
+        CaseTree first = Make.of("", "1", "23x 0");
+        first.grow(1);
+        check.due("wrong()", first.wrong(), 1);
+        CaseTree last = Make.of("", "23x 0", "1");
+        last.grow(1);
+        check.due("wrong()", last.wrong(), 1);
     }
 
     private static void wrongOfTheCasesThatThereAreNow() {

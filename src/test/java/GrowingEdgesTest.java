@@ -28,6 +28,7 @@ public final class GrowingEdgesTest {
         lightSecondClass();
         gainOfZeroAndBelow();
         gainJustAboveZero();
+        gainAroundZeroAtANode();
         depthOfThree();
         discreteOnce();
 
@@ -251,6 +252,22 @@ public final class GrowingEdgesTest {
         check.due("gain(0, 1)", continuous.gain(0, 1), 720);
         check.due("grow(1)", continuous.grow(1), 7);
         check.due("threshold(0)", continuous.threshold(0), 0);
+    }
+
+    /** Below branch 0 of the root, where some cases are in shares, attribute 1 has a gain of 3 or of -2. */
+    private static void gainAroundZeroAtANode() {
+        check.part("promise 4: a gain just above and just below 0");
+        CaseTree above = Make.of("2 2", "2x 1 0 0", "2x 1 0 1", "2x 1 0 -1", "0 -1 0", "0 -1 1", "1 -1 0", "5x 2 1 -1");
+        check.due("grow(1)", above.grow(1), 5);
+        check.node(above, 1, 1, -1, 1, 786, 4713, 0);
+        check.parts(above, 1, 2226, 1833);
+        check.due("its gain", information(786, 3273) - information(393, 1833) - information(393, 1440), 3);
+        CaseTree below = Make.of("2 3", "0 0 0", "0 0 1", "0 0 2", "3x 1 0 0", "2x 1 0 1", "1 0 2", "0 -1 0", "1 -1 2",
+                "5x 2 1 -1");
+        check.due("grow(1)", below.grow(1), 3);
+        check.node(below, 1, -1, -1, 1, 2623, 4783, 0);
+        check.due("its gain", information(2623, 4783) - information(1183, 2160) - information(720, 1440)
+                - information(720, 1183), -2);
     }
 
     /** Each test takes the lowest value away; the last two values stay together at depth 3. */

@@ -303,6 +303,9 @@ public final class PruningEdgesTest {
         CaseTree x = Make.of("2", "2x 0 0", "1 1");
         x.grow(1);
         Make.add(x, "6x 2 0", "5x 2 1", "2 -1");
+        // what is asked of all cases in between does not matter
+        check.due("wrong()", x.wrong(), 12);
+        check.holds("gain(0, 1)", x.gain(0, 1) >= -2);
         check.due("prune(719)", x.prune(719), 3);
         check.node(x, 0, 0, -1, 0, 1440, 720, 0);
         check.parts(x, 0, 1440, 720);
